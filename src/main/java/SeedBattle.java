@@ -542,23 +542,23 @@ public final class SeedBattle {
         }
 
         int place(int unit) {
-            return has(unit) ? places[unit] : NONE;
+            return unit >= 0 && unit < count ? places[unit] : NONE;
         }
 
         int owner(int unit) {
-            return has(unit) ? owners[unit] : NONE;
+            return unit >= 0 && unit < count ? owners[unit] : NONE;
         }
 
         int sight(int unit) {
-            return has(unit) ? KIND_SIGHTS[kinds[unit]] : 0;
+            return unit >= 0 && unit < count ? KIND_SIGHTS[kinds[unit]] : 0;
         }
 
         int steps(int unit) {
-            return has(unit) ? KIND_STEPS[kinds[unit]] : 0;
+            return unit >= 0 && unit < count ? KIND_STEPS[kinds[unit]] : 0;
         }
 
         int power(int unit) {
-            return has(unit) ? KIND_POWERS[kinds[unit]] : 0;
+            return unit >= 0 && unit < count ? KIND_POWERS[kinds[unit]] : 0;
         }
 
         int on(int cell) {
@@ -571,7 +571,7 @@ public final class SeedBattle {
         }
 
         void move(int unit, int cell) {
-            if (has(unit)) {
+            if (unit >= 0 && unit < count) {
                 places[unit] = cell;
             }
         }
@@ -733,9 +733,8 @@ public final class SeedBattle {
 
         private int lookAt(int cell) {
             int holder = units.on(cell);
-            boolean held = holder != NONE && wants[holder] == cell;
             int strongest = strongestFor(cell);
-            if (!held) {
+            if (holder == NONE || wants[holder] != cell) {
                 turnBack(cell, firstMover(cell, strongest));
                 return 0;
             }
@@ -769,9 +768,10 @@ public final class SeedBattle {
             return strongest;
         }
 
+        /** Asked where nobody holds the cell: so all that want it are movers. */
         private int firstMover(int cell, int player) {
             for (int unit = 0; unit < units.count; unit++) {
-                if (wants[unit] == cell && isMover(unit) && units.owner(unit) == player) {
+                if (wants[unit] == cell && units.owner(unit) == player) {
                     return unit;
                 }
             }

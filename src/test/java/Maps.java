@@ -47,6 +47,14 @@ final class Maps {
         return game;
     }
 
+    /** Adds units, each written as its player, kind and cell, such as 0a27, apart by spaces. */
+    static SeedBattle with(SeedBattle game, String units) {
+        for (String unit : units.split(" ")) {
+            game.addUnit(unit.charAt(0) - '0', unit.charAt(1), Integer.parseInt(unit.substring(2)));
+        }
+        return game;
+    }
+
     /** A game with dry ground in the columns 1 to 5 of the rows 2 to 5. */
     static SeedBattle dryGame() {
         StringBuilder wishes = new StringBuilder();

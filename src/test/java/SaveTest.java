@@ -26,11 +26,7 @@ public final class SaveTest {
     }
 
     private static SeedBattle with(String units) {
-        SeedBattle game = Maps.plainGame();
-        for (String unit : units.split(" ")) {
-            game.addUnit(unit.charAt(0) - '0', unit.charAt(1), Integer.parseInt(unit.substring(2)));
-        }
-        return game;
+        return Maps.with(Maps.plainGame(), units);
     }
 
     private static String numbers(SeedBattle game, int player, int size) {
@@ -233,6 +229,17 @@ public final class SaveTest {
         CHECK.same("the other ally has no ended one", game.repair(1), 1);
         game.breakBlock(2, 1);
         CHECK.same("the one of the ended treaty", game.repair(2), 0);
+        game.save();
+        game.setTreaty(1, 0, false);
+        game.breakBlock(0, 0);
+        CHECK.same("ended by the other one", game.repair(0), 0);
+        game.breakBlock(1, 0);
+        CHECK.same("for the one that ended it", game.repair(1), 0);
+        game.setTreaty(1, 2, true);
+        game.save();
+        game.setTreaty(1, 2, false);
+        game.breakBlock(2, 0);
+        CHECK.same("for the one with whom it ended", game.repair(2), 0);
         CHECK.same("its allies", game.allies(2), 1);
     }
 

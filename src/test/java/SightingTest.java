@@ -9,6 +9,7 @@ public final class SightingTest {
         whatIsSighted();
         treatiesShare();
         treatiesTellOwnSightsAlone();
+        treatiesTellAllUnits();
         lostUnitsAreNotSighted();
         sixtyAtMost();
         sixtyWithWhatIsTold();
@@ -19,11 +20,7 @@ public final class SightingTest {
     }
 
     private static SeedBattle with(String units) {
-        SeedBattle game = Maps.plainGame();
-        for (String unit : units.split(" ")) {
-            game.addUnit(unit.charAt(0) - '0', unit.charAt(1), Integer.parseInt(unit.substring(2)));
-        }
-        return game;
+        return Maps.with(Maps.plainGame(), units);
     }
 
     /** An index as turn/cell/unit, apart by spaces. */
@@ -48,6 +45,15 @@ public final class SightingTest {
         CHECK.same("it is ended", game.setTreaty(0, 1, false), false);
         CHECK.same("for both", game.setTreaty(1, 0, true), false);
         CHECK.same("made again", game.setTreaty(0, 1, false), true);
+        for (int other = 1; other < 4; other++) {
+            game.setTreaty(other, 0, true);
+        }
+        for (int other = 1; other < 4; other++) {
+            CHECK.same("with several at once", game.setTreaty(0, other, true), true);
+            CHECK.same("not between them", game.setTreaty(other, other % 3 + 1, false), false);
+        }
+        CHECK.same("one ends", game.setTreaty(0, 2, false), true);
+        CHECK.same("the others stay", game.setTreaty(1, 0, true) && game.setTreaty(3, 0, true), true);
     }
 
     private static void wrongTreaties() {
@@ -110,6 +116,21 @@ public final class SightingTest {
         CHECK.same("who is told", index(game, 2), "1/25/0 1/18/1 1/20/3");
         CHECK.same("the ally of the told", index(game, 0), "1/18/1 1/17/2");
         CHECK.same("the sighted one", index(game, 3), "1/18/1");
+    }
+
+    private static void treatiesTellAllUnits() {
+        SeedBattle game = with("3a20 3a28 0a17 1a25 2s18");
+        game.setTreaty(0, 2, true);
+        game.setTreaty(1, 2, true);
+        game.turn();
+        CHECK.same("the unit 0, too", index(game, 0), "1/20/0 1/28/1 1/25/3 1/18/4");
+        CHECK.same("told both", index(game, 1), "1/20/0 1/28/1 1/17/2 1/18/4");
+        game = with("1s18 0a17 3a20 2a25");
+        game.setTreaty(3, 1, true);
+        game.setTreaty(3, 0, true);
+        game.turn();
+        CHECK.same("told by the players 0 and 1", index(game, 3), "1/18/0 1/17/1 1/25/3");
+        CHECK.same("told by the player 3", index(game, 0), "1/18/0 1/25/3");
     }
 
     private static void lostUnitsAreNotSighted() {

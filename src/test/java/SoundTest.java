@@ -16,16 +16,14 @@ public final class SoundTest {
         otherOrder();
         ordersToComeDoNotCount();
         savedNumber();
+        anyUnitOrSave();
         ownUnitInIndex();
+        rebuildingIsReal();
         CHECK.end();
     }
 
     private static SeedBattle played() {
-        SeedBattle game = Maps.plainGame();
-        String[] units = {"0a17", "1s18", "2s20", "0s27", "2a28"};
-        for (String unit : units) {
-            game.addUnit(unit.charAt(0) - '0', unit.charAt(1), Integer.parseInt(unit.substring(2)));
-        }
+        SeedBattle game = Maps.with(Maps.plainGame(), "0a17 1s18 2s20 0s27 2a28");
         game.setTreaty(0, 2, true);
         game.order(0, 2);
         game.turn();
@@ -112,6 +110,47 @@ public final class SoundTest {
         game.turn();
         game.turn();
         CHECK.same("the index of then, not of now", game.isSound(), true);
+    }
+
+    private static void anyUnitOrSave() throws ReflectiveOperationException {
+        SeedBattle game = Maps.plainGame();
+        for (int unit = 0; unit < 5; unit++) {
+            game.addUnit(unit % 4, 's', unit < 4 ? 17 + unit : 25);
+        }
+        game.turn();
+        game.save();
+        int[] places = (int[]) inside(game, "field", "units", "places");
+        for (int unit = 0; unit < 5; unit++) {
+            places[unit] += 40;
+            CHECK.same("the unit " + unit + " elsewhere", game.isSound(), false);
+            places[unit] -= 40;
+        }
+        for (int player = 0; player < 4; player++) {
+            int[] numbers = (int[]) inside(inside(game, "copies"), player, "numbers");
+            int last = game.sightings(player) - 1;
+            CHECK.same("there is a save", last >= 0, true);
+            numbers[last] ^= 4;
+            CHECK.same("the save of " + player, game.isSound(), false);
+            numbers[last] ^= 4;
+            CHECK.same("as it was", game.isSound(), true);
+        }
+    }
+
+    /** What is broken is wiped, and comes back from the parity and the blocks of the allies alone. */
+    private static void rebuildingIsReal() throws ReflectiveOperationException {
+        SeedBattle game = played();
+        int[] mine = (int[]) inside(inside(game, "copies"), 0, "numbers");
+        int[] allied = (int[]) inside(inside(game, "copies"), 2, "numbers");
+        int[] parity = (int[]) inside(inside(game, "copies"), 0, "parity");
+        int was = mine[0];
+        for (int place = 0; place < 60; place++) {
+            CHECK.same("the parity at " + place, parity[place], mine[place] ^ allied[place]);
+        }
+        game.breakBlock(0, 0);
+        CHECK.same("the broken number", mine[0], 0);
+        allied[0] ^= 1;
+        CHECK.same("repair", game.repair(0), 1);
+        CHECK.same("the ally's number tells", mine[0], was ^ 1);
     }
 
     private static void ownUnitInIndex() throws ReflectiveOperationException {

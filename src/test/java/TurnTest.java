@@ -1,8 +1,6 @@
 /** Promises 5 to 7 and the turns: order, turn, done. */
 public final class TurnTest {
     private static final Check CHECK = new Check("TurnTest");
-    /** In the middle of the dry game: a block of three by three cells around 27 that are land. */
-    private static final int MID = 27;
 
     public static void main(String[] args) {
         wrongOrders();
@@ -28,13 +26,8 @@ public final class TurnTest {
         CHECK.end();
     }
 
-    /** A game with units written as player, kind and cell, such as 0a27. */
     private static SeedBattle with(String units) {
-        SeedBattle game = Maps.dryGame();
-        for (String unit : units.split(" ")) {
-            game.addUnit(unit.charAt(0) - '0', unit.charAt(1), Integer.parseInt(unit.substring(2)));
-        }
-        return game;
+        return Maps.with(Maps.dryGame(), units);
     }
 
     /** Gives orders written as unit and direction, does the turn, looks at losses and cells. */
@@ -152,6 +145,8 @@ public final class TurnTest {
         play("nor does it let them pass", game, "0>2 1>6", 0, 27, 28);
         play("two pairs", with("0a27 1s28 1a35 0s36"), "0>2 1>6 2>2 3>6", 2, 28, -1, 36, -1);
         play("the meeting has no help", with("0s27 1a28 0a36"), "0>2 1>6 2>0", 1, -1, 27, 28);
+        play("nor has one of the same power", with("0s27 1s28 0s36"), "0>2 1>6 2>0", 0, 27, 28, 36);
+        play("nor has the other one", with("0s27 1s28 1s35"), "0>2 1>6 2>0", 0, 27, 28, 35);
         play("a pair of the same power turned back is beaten", with("0s27 1s28 2a20"),
             "0>2 1>6 2>4", 1, 27, -1, 28);
     }
