@@ -1,3 +1,5 @@
+import java.util.ArrayList;
+import java.util.List;
 import java.util.Objects;
 
 /** Counts and prints what a test finds wrong. */
@@ -6,7 +8,14 @@ final class Check {
         Object run();
     }
 
+    /** Words of the document, and the part of it where they stand. */
+    record Quote(String part, String words) {
+    }
+
     private final String name;
+    private final List<Quote> quotes = new ArrayList<>();
+    private String sentence = "";
+    private int checkedBefore = -1;
     private int checked;
     private int wrong;
 
@@ -14,11 +23,32 @@ final class Check {
         this.name = name;
     }
 
+    /** Quotes the sentence, or a part of it, that the checks behind this call look at. */
+    void sentence(String part, String words) {
+        leaveSentence();
+        quotes.add(new Quote(part, words));
+        sentence = part + ", \"" + words + "\": ";
+        checkedBefore = checked;
+    }
+
+    /** A quote without a check behind it would only seem to be tested. */
+    void leaveSentence() {
+        if (checked == checkedBefore) {
+            same("the number of its checks", 0, "1 or more");
+        }
+        sentence = "";
+        checkedBefore = -1;
+    }
+
+    List<Quote> quotes() {
+        return quotes;
+    }
+
     void same(String what, Object got, Object due) {
         checked++;
         if (!Objects.equals(got, due)) {
             wrong++;
-            System.out.println(name + ": " + what + " answered " + got + ", due is " + due);
+            System.out.println(name + ": " + sentence + what + " answered " + got + ", due is " + due);
         }
     }
 
@@ -35,7 +65,7 @@ final class Check {
         same(what, answer(call), due);
     }
 
-    private void refuses(String what, String exception, SeedBattle game, Call call) {
+    void refuses(String what, String exception, SeedBattle game, Call call) {
         String before = State.of(game);
         same(what, answer(call), "throws." + exception);
         same("the game behind " + what, State.of(game), before);
@@ -63,6 +93,21 @@ final class Check {
 
     void noNumber(String what, SeedBattle game, Call call) {
         refuses(what, "ArithmeticException", game, call);
+    }
+
+    /** Gives orders written as unit>direction, does the turn, looks at the losses and at all cells. */
+    void play(String what, SeedBattle game, String orders, int lost, int... cells) {
+        for (String order : orders.split(" ")) {
+            if (!order.isEmpty()) {
+                String[] parts = order.split(">");
+                game.order(Integer.parseInt(parts[0]), Integer.parseInt(parts[1]));
+            }
+        }
+        same(what + ": the lost", game.turn(), lost);
+        for (int unit = 0; unit < cells.length; unit++) {
+            same(what + ": cellOf(" + unit + ")", game.cellOf(unit), cells[unit]);
+        }
+        same(what + ": isSound", game.isSound(), true);
     }
 
     void end() {

@@ -16,7 +16,8 @@ final class Maps {
 
     /**
      * The first seed from 0 on whose map fits: wishes are written cell=ground, apart by spaces;
-     * the ground o stands for open ground (plain or water), l for land (all but water).
+     * the ground o stands for open ground (plain or water), b for what blocks (wood or hill),
+     * l for land (all but water).
      */
     static int seedFor(String wishes) {
         String[] parts = wishes.trim().split(" +");
@@ -33,12 +34,24 @@ final class Maps {
             String[] wish = part.split("=");
             char is = map.charAt(Integer.parseInt(wish[0]));
             char due = wish[1].charAt(0);
-            boolean good = due == 'o' ? is == 'p' || is == 'x' : due == 'l' ? is != 'x' : is == due;
-            if (!good) {
+            if (!suits(is, due)) {
                 return false;
             }
         }
         return true;
+    }
+
+    private static boolean suits(char is, char due) {
+        switch (due) {
+            case 'o':
+                return is == 'p' || is == 'x';
+            case 'b':
+                return is == 'w' || is == 'h';
+            case 'l':
+                return is != 'x';
+            default:
+                return is == due;
+        }
     }
 
     static SeedBattle game(String wishes) {
@@ -53,6 +66,26 @@ final class Maps {
             game.addUnit(unit.charAt(0) - '0', unit.charAt(1), Integer.parseInt(unit.substring(2)));
         }
         return game;
+    }
+
+    /** Adds scouts of all players in turn on the first free land, as long as they are taken; how many. */
+    static int fill(SeedBattle game, int many) {
+        for (int unit = 0; unit < many; unit++) {
+            try {
+                game.addUnit(unit % 4, 's', freeLand(game));
+            } catch (IllegalStateException e) {
+                return unit;
+            }
+        }
+        return many;
+    }
+
+    static int freeLand(SeedBattle game) {
+        int cell = 0;
+        while (game.ground(cell) == 'x' || game.unitOn(cell) >= 0) {
+            cell++;
+        }
+        return cell;
     }
 
     /** A game with dry ground in the columns 1 to 5 of the rows 2 to 5. */

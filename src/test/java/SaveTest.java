@@ -29,15 +29,6 @@ public final class SaveTest {
         return Maps.with(Maps.plainGame(), units);
     }
 
-    private static String numbers(SeedBattle game, int player, int size) {
-        StringBuilder text = new StringBuilder();
-        for (int at = 0; at < size; at++) {
-            int place = at;
-            text.append(at == 0 ? "" : " ").append(Check.answer(() -> game.savedAt(player, place)));
-        }
-        return text.toString();
-    }
-
     private static void numbersOfSaves() {
         SeedBattle game = with("0s17 1s20 1a28");
         game.turn();
@@ -45,7 +36,7 @@ public final class SaveTest {
         game.turn();
         CHECK.same("save", game.save(), game.sightings(0) + game.sightings(1));
         CHECK.same("sightings", game.sightings(0), 4);
-        CHECK.same("by turns, then units", numbers(game, 0, 4), "120001 128002 219001 228002");
+        CHECK.same("by turns, then units", State.numbers(game, 0, 4), "120001 128002 219001 228002");
         CHECK.same("blocks of four", game.blocks(0), 1);
         CHECK.same("blocks of none", game.blocks(3), 0);
         CHECK.noElement("the number behind the last", game, () -> game.savedAt(0, 4));
@@ -57,8 +48,8 @@ public final class SaveTest {
         CHECK.same("save of the crowd", game.save(), 7 + 5 + 6 + 6);
         CHECK.same("blocks of seven", game.blocks(0), 2);
         CHECK.same("blocks of five", game.blocks(1), 2);
-        CHECK.same("the seven", numbers(game, 0, 7), "118001 119002 120003 125004 126005 127006 128007");
-        CHECK.same("the five", numbers(game, 1, 5), "117000 125004 126005 127006 128007");
+        CHECK.same("the seven", State.numbers(game, 0, 7), "118001 119002 120003 125004 126005 127006 128007");
+        CHECK.same("the five", State.numbers(game, 1, 5), "117000 125004 126005 127006 128007");
     }
 
     private static void noSave() {
@@ -117,10 +108,10 @@ public final class SaveTest {
         CHECK.same("it was whole", game.breakBlock(0, 1), true);
         CHECK.same("it was not", game.breakBlock(0, 1), false);
         String out = "throws.UnsupportedOperationException";
-        CHECK.same("the first block is whole", numbers(game, 0, 7),
+        CHECK.same("the first block is whole", State.numbers(game, 0, 7),
             "118001 119002 120003 125004 " + out + " " + out + " " + out);
         CHECK.unsupported("savedAt", game, () -> game.savedAt(0, 4));
-        CHECK.same("others are whole", numbers(game, 1, 5), "117000 125004 126005 127006 128007");
+        CHECK.same("others are whole", State.numbers(game, 1, 5), "117000 125004 126005 127006 128007");
         CHECK.same("the number of blocks", game.blocks(0), 2);
         CHECK.same("the index", game.sightings(0), 7);
         CHECK.same("isSound", game.isSound(), true);
@@ -150,7 +141,7 @@ public final class SaveTest {
         int[] allies = {2, 1, 0, 1};
         for (int player = 0; player < 4; player++) {
             int size = game.sightings(player);
-            String before = numbers(game, player, size);
+            String before = State.numbers(game, player, size);
             CHECK.same("allies", game.allies(player), allies[player]);
             CHECK.same("nothing to repair", game.repair(player), 0);
             for (int block = 0; block < game.blocks(player); block++) {
@@ -159,7 +150,7 @@ public final class SaveTest {
             int due = allies[player] > 0 ? game.blocks(player) : 0;
             CHECK.same("repair of " + player, game.repair(player), due);
             if (due > 0) {
-                CHECK.same("what was rebuilt", numbers(game, player, size), before);
+                CHECK.same("what was rebuilt", State.numbers(game, player, size), before);
                 CHECK.same("it is whole", game.breakBlock(player, 0), true);
                 CHECK.same("repair of one", game.repair(player), 1);
             }
@@ -176,10 +167,10 @@ public final class SaveTest {
         game.breakBlock(0, 0);
         game.breakBlock(0, 1);
         CHECK.same("repair", game.repair(0), 2);
-        CHECK.same("the numbers", numbers(game, 0, 7), "118001 119002 120003 125004 126005 127006 128007");
+        CHECK.same("the numbers", State.numbers(game, 0, 7), "118001 119002 120003 125004 126005 127006 128007");
         game.breakBlock(1, 0);
         CHECK.same("the short one", game.repair(1), 1);
-        CHECK.same("its number", numbers(game, 1, 1), "117000");
+        CHECK.same("its number", State.numbers(game, 1, 1), "117000");
     }
 
     private static void brokenBlocksOfAllies() {
@@ -282,7 +273,7 @@ public final class SaveTest {
         game.turn();
         game.setTreaty(0, 1, true);
         CHECK.same("the save of then", game.blocks(0), 2);
-        CHECK.same("its numbers", numbers(game, 0, 7), "118001 119002 120003 125004 126005 127006 128007");
+        CHECK.same("its numbers", State.numbers(game, 0, 7), "118001 119002 120003 125004 126005 127006 128007");
         CHECK.same("its allies", game.allies(0), 0);
         CHECK.same("save anew", game.save(), 2 * 24);
         CHECK.same("the save of now", game.blocks(0), 4);
@@ -309,7 +300,7 @@ public final class SaveTest {
         game.turn();
         CHECK.same("goes on", game.sightings(0), 4);
         CHECK.same("behind the old ones", game.sighting(0, 2, 't'), 4);
-        CHECK.same("the save stays", numbers(game, 0, 2), "120001 128002");
+        CHECK.same("the save stays", State.numbers(game, 0, 2), "120001 128002");
         CHECK.same("load again", game.load(0), 2);
         CHECK.same("load of the empty", game.load(3), 0);
         CHECK.same("isSound", game.isSound(), true);

@@ -23,17 +23,6 @@ public final class SightingTest {
         return Maps.with(Maps.plainGame(), units);
     }
 
-    /** An index as turn/cell/unit, apart by spaces. */
-    private static String index(SeedBattle game, int player) {
-        StringBuilder text = new StringBuilder();
-        for (int row = 0; row < game.sightings(player); row++) {
-            text.append(row == 0 ? "" : " ").append(game.sighting(player, row, 't'));
-            text.append('/').append(game.sighting(player, row, 'c'));
-            text.append('/').append(game.sighting(player, row, 'u'));
-        }
-        return text.toString();
-    }
-
     private static void treaties() {
         SeedBattle game = new SeedBattle();
         CHECK.same("none at first", game.setTreaty(0, 1, true), false);
@@ -81,29 +70,29 @@ public final class SightingTest {
     private static void whatIsSighted() {
         SeedBattle game = with("0a17 1s20 2a19");
         game.turn();
-        CHECK.same("the army at the left", index(game, 0), "1/19/2");
-        CHECK.same("the scout at the right", index(game, 1), "1/17/0 1/19/2");
-        CHECK.same("the army between", index(game, 2), "1/17/0 1/20/1");
-        CHECK.same("nobody", index(game, 3), "");
+        CHECK.same("the army at the left", State.index(game, 0), "1/19/2");
+        CHECK.same("the scout at the right", State.index(game, 1), "1/17/0 1/19/2");
+        CHECK.same("the army between", State.index(game, 2), "1/17/0 1/20/1");
+        CHECK.same("nobody", State.index(game, 3), "");
         game.order(0, 4);
         game.turn();
-        CHECK.same("again", index(game, 0), "1/19/2 2/19/2");
-        CHECK.same("moved", index(game, 1), "1/17/0 1/19/2 2/25/0 2/19/2");
+        CHECK.same("again", State.index(game, 0), "1/19/2 2/19/2");
+        CHECK.same("moved", State.index(game, 1), "1/17/0 1/19/2 2/25/0 2/19/2");
     }
 
     private static void treatiesShare() {
         SeedBattle game = with("0a17 1s20 2a19");
         game.setTreaty(2, 0, true);
         game.turn();
-        CHECK.same("told, by rising units", index(game, 0), "1/20/1 1/19/2");
-        CHECK.same("not told of itself, allies are sighted, too", index(game, 2), "1/17/0 1/20/1");
-        CHECK.same("without a treaty", index(game, 1), "1/17/0 1/19/2");
+        CHECK.same("told, by rising units", State.index(game, 0), "1/20/1 1/19/2");
+        CHECK.same("not told of itself, allies are sighted, too", State.index(game, 2), "1/17/0 1/20/1");
+        CHECK.same("without a treaty", State.index(game, 1), "1/17/0 1/19/2");
         game.setTreaty(0, 2, false);
         game.turn();
-        CHECK.same("not told of what was", index(game, 0), "1/20/1 1/19/2 2/19/2");
+        CHECK.same("not told of what was", State.index(game, 0), "1/20/1 1/19/2 2/19/2");
         game.setTreaty(0, 1, true);
         game.turn();
-        CHECK.same("nothing new from the other", index(game, 0), "1/20/1 1/19/2 2/19/2 3/19/2");
+        CHECK.same("nothing new from the other", State.index(game, 0), "1/20/1 1/19/2 2/19/2 3/19/2");
         CHECK.same("the other has it all", game.sightings(1), 6);
     }
 
@@ -112,10 +101,10 @@ public final class SightingTest {
         game.setTreaty(1, 2, true);
         game.setTreaty(2, 0, true);
         game.turn();
-        CHECK.same("who sees it", index(game, 1), "1/25/0 1/17/2 1/20/3");
-        CHECK.same("who is told", index(game, 2), "1/25/0 1/18/1 1/20/3");
-        CHECK.same("the ally of the told", index(game, 0), "1/18/1 1/17/2");
-        CHECK.same("the sighted one", index(game, 3), "1/18/1");
+        CHECK.same("who sees it", State.index(game, 1), "1/25/0 1/17/2 1/20/3");
+        CHECK.same("who is told", State.index(game, 2), "1/25/0 1/18/1 1/20/3");
+        CHECK.same("the ally of the told", State.index(game, 0), "1/18/1 1/17/2");
+        CHECK.same("the sighted one", State.index(game, 3), "1/18/1");
     }
 
     private static void treatiesTellAllUnits() {
@@ -123,23 +112,23 @@ public final class SightingTest {
         game.setTreaty(0, 2, true);
         game.setTreaty(1, 2, true);
         game.turn();
-        CHECK.same("the unit 0, too", index(game, 0), "1/20/0 1/28/1 1/25/3 1/18/4");
-        CHECK.same("told both", index(game, 1), "1/20/0 1/28/1 1/17/2 1/18/4");
+        CHECK.same("the unit 0, too", State.index(game, 0), "1/20/0 1/28/1 1/25/3 1/18/4");
+        CHECK.same("told both", State.index(game, 1), "1/20/0 1/28/1 1/17/2 1/18/4");
         game = with("1s18 0a17 3a20 2a25");
         game.setTreaty(3, 1, true);
         game.setTreaty(3, 0, true);
         game.turn();
-        CHECK.same("told by the players 0 and 1", index(game, 3), "1/18/0 1/17/1 1/25/3");
-        CHECK.same("told by the player 3", index(game, 0), "1/18/0 1/25/3");
+        CHECK.same("told by the players 0 and 1", State.index(game, 3), "1/18/0 1/17/1 1/25/3");
+        CHECK.same("told by the player 3", State.index(game, 0), "1/18/0 1/25/3");
     }
 
     private static void lostUnitsAreNotSighted() {
         SeedBattle game = with("0a17 1s18 2s26");
         game.order(0, 2);
         game.turn();
-        CHECK.same("the winner", index(game, 0), "1/26/2");
-        CHECK.same("the lost", index(game, 1), "");
-        CHECK.same("who looked on", index(game, 2), "1/18/0");
+        CHECK.same("the winner", State.index(game, 0), "1/26/2");
+        CHECK.same("the lost", State.index(game, 1), "");
+        CHECK.same("who looked on", State.index(game, 2), "1/18/0");
         CHECK.noElement("lastSeen of the lost", game, () -> game.lastSeen(2, 1));
     }
 
@@ -155,16 +144,16 @@ public final class SightingTest {
         game.turn();
         CHECK.same("sixty", game.sightings(0), 60);
         CHECK.same("the lowest units of the earliest turn are gone",
-            index(game, 0).substring(0, 34), "1/25/4 1/26/5 1/27/6 1/28/7 2/18/1");
+            State.index(game, 0).substring(0, 34), "1/25/4 1/26/5 1/27/6 1/28/7 2/18/1");
         CHECK.same("the last", game.sighting(0, 59, 'u'), 7);
         game.turn();
         CHECK.same("still sixty", game.sightings(0), 60);
-        CHECK.same("seven more are gone", index(game, 0).substring(0, 34), "2/25/4 2/26/5 2/27/6 2/28/7 3/18/1");
+        CHECK.same("seven more are gone", State.index(game, 0).substring(0, 34), "2/25/4 2/26/5 2/27/6 2/28/7 3/18/1");
         for (int turn = 11; turn <= 99; turn++) {
             game.turn();
         }
         CHECK.same("at the end", game.sightings(0), 60);
-        CHECK.same("the first at the end", index(game, 0).substring(0, 15), "91/25/4 91/26/5");
+        CHECK.same("the first at the end", State.index(game, 0).substring(0, 15), "91/25/4 91/26/5");
         CHECK.same("the other at the end", game.sightings(1), 60);
         CHECK.same("its first", game.sighting(1, 0, 't'), 40);
     }
@@ -176,8 +165,8 @@ public final class SightingTest {
             game.turn();
         }
         CHECK.same("sixty of seventy", game.sightings(0), 60);
-        CHECK.same("the first", index(game, 0).substring(0, 6), "2/20/4");
-        CHECK.same("the first of the ally", index(game, 2).substring(0, 6), "2/20/4");
+        CHECK.same("the first", State.index(game, 0).substring(0, 6), "2/20/4");
+        CHECK.same("the first of the ally", State.index(game, 2).substring(0, 6), "2/20/4");
         CHECK.same("isSound", game.isSound(), true);
     }
 

@@ -1,3 +1,4 @@
+import java.io.IOException;
 import java.lang.reflect.Array;
 import java.lang.reflect.Field;
 
@@ -8,17 +9,30 @@ import java.lang.reflect.Field;
 public final class SoundTest {
     private static final Check CHECK = new Check("SoundTest");
 
-    public static void main(String[] args) throws ReflectiveOperationException {
+    public static void main(String[] args) throws ReflectiveOperationException, IOException {
         soundAtAnyTime();
+        CHECK.sentence("Promise 27",
+            "units are where a new game with this seed, units and orders of all turns has them");
         unitElsewhere();
+        anyUnit();
         lostUnitLives();
         otherSeed();
         otherOrder();
         ordersToComeDoNotCount();
+        CHECK.sentence("Promise 27",
+            "each number of a save whose block is whole was in the index of its player as it was saved");
         savedNumber();
-        anyUnitOrSave();
+        anySave();
+        CHECK.sentence("Promise 27", "no index has a sighting of a unit of its own player");
         ownUnitInIndex();
+        CHECK.sentence("Saves", "It can be rebuilt from the parity and the blocks of the allies");
         rebuildingIsReal();
+        allOfABlockIsWiped();
+        CHECK.sentence("Saves", "of this block of the player's own save and of those of all its allies, "
+            + "exclusively or, place by place");
+        parityOfAllAllies();
+        CHECK.leaveSentence();
+        new Document(Document.FILE).holds(CHECK.quotes(), CHECK);
         CHECK.end();
     }
 
@@ -112,27 +126,39 @@ public final class SoundTest {
         CHECK.same("the index of then, not of now", game.isSound(), true);
     }
 
-    private static void anyUnitOrSave() throws ReflectiveOperationException {
+    private static SeedBattle five() {
         SeedBattle game = Maps.plainGame();
         for (int unit = 0; unit < 5; unit++) {
             game.addUnit(unit % 4, 's', unit < 4 ? 17 + unit : 25);
         }
         game.turn();
         game.save();
+        return game;
+    }
+
+    private static void anyUnit() throws ReflectiveOperationException {
+        SeedBattle game = five();
         int[] places = (int[]) inside(game, "field", "units", "places");
         for (int unit = 0; unit < 5; unit++) {
             places[unit] += 40;
             CHECK.same("the unit " + unit + " elsewhere", game.isSound(), false);
             places[unit] -= 40;
+            CHECK.same("the unit " + unit + " put back", game.isSound(), true);
         }
+    }
+
+    private static void anySave() throws ReflectiveOperationException {
+        SeedBattle game = five();
         for (int player = 0; player < 4; player++) {
             int[] numbers = (int[]) inside(inside(game, "copies"), player, "numbers");
             int last = game.sightings(player) - 1;
             CHECK.same("there is a save", last >= 0, true);
-            numbers[last] ^= 4;
-            CHECK.same("the save of " + player, game.isSound(), false);
-            numbers[last] ^= 4;
-            CHECK.same("as it was", game.isSound(), true);
+            for (int place = 0; place <= last; place++) {
+                numbers[place] ^= 4;
+                CHECK.same("the number " + place + " of " + player, game.isSound(), false);
+                numbers[place] ^= 4;
+                CHECK.same("as it was", game.isSound(), true);
+            }
         }
     }
 
@@ -151,6 +177,48 @@ public final class SoundTest {
         allied[0] ^= 1;
         CHECK.same("repair", game.repair(0), 1);
         CHECK.same("the ally's number tells", mine[0], was ^ 1);
+    }
+
+    /** A parity is made of the saves of all allies, where they have numbers, exclusively or. */
+    private static void parityOfAllAllies() throws ReflectiveOperationException {
+        SeedBattle game = Maps.with(Maps.plainGame(), "0s17 1s18 1s19 1s20 2s25 2s26 3s27 3s28");
+        for (int ally = 0; ally < 4; ally++) {
+            game.setTreaty(3, ally == 3 ? 0 : ally, true);
+        }
+        game.turn();
+        game.save();
+        for (int player = 0; player < 4; player++) {
+            int[] parity = (int[]) inside(inside(game, "copies"), player, "parity");
+            for (int place = 0; place < 60; place++) {
+                int due = saved(game, player, place);
+                for (int ally = 0; ally < 4; ally++) {
+                    boolean allied = ally != player && (player == 3 || ally == 3);
+                    due ^= allied ? saved(game, ally, place) : 0;
+                }
+                CHECK.same("the parity of " + player + " at " + place, parity[place], due);
+            }
+        }
+    }
+
+    private static int saved(SeedBattle game, int player, int place) {
+        return place < game.sightings(player) ? game.savedAt(player, place) : 0;
+    }
+
+    private static void allOfABlockIsWiped() throws ReflectiveOperationException {
+        SeedBattle game = Maps.with(Maps.plainGame(), "0s17 1s18 1s19 1s20 2s25 2s26 3s27 3s28");
+        game.turn();
+        game.save();
+        int[] numbers = (int[]) inside(inside(game, "copies"), 0, "numbers");
+        int last = numbers[3];
+        game.breakBlock(0, 1);
+        CHECK.same("the block ahead of it stays", numbers[3], last);
+        for (int place = 4; place < 7; place++) {
+            CHECK.same("the number at " + place, numbers[place], 0);
+        }
+        game.breakBlock(0, 0);
+        for (int place = 0; place < 4; place++) {
+            CHECK.same("the number at " + place, numbers[place], 0);
+        }
     }
 
     private static void ownUnitInIndex() throws ReflectiveOperationException {

@@ -20,6 +20,27 @@ final class State {
         return text.toString();
     }
 
+    /** The index of a player, each sighting as turn/cell/unit, apart by spaces. */
+    static String index(SeedBattle game, int player) {
+        StringBuilder text = new StringBuilder();
+        for (int row = 0; row < game.sightings(player); row++) {
+            text.append(row == 0 ? "" : " ").append(game.sighting(player, row, 't'));
+            text.append('/').append(game.sighting(player, row, 'c'));
+            text.append('/').append(game.sighting(player, row, 'u'));
+        }
+        return text.toString();
+    }
+
+    /** The first numbers of the save of a player, or what is thrown in their place, apart by spaces. */
+    static String numbers(SeedBattle game, int player, int size) {
+        StringBuilder text = new StringBuilder();
+        for (int at = 0; at < size; at++) {
+            int place = at;
+            text.append(at == 0 ? "" : " ").append(Check.answer(() -> game.savedAt(player, place)));
+        }
+        return text.toString();
+    }
+
     private static void addUnits(SeedBattle game, StringBuilder text) {
         for (int number = 0; number < 24; number++) {
             int unit = number;
@@ -37,12 +58,8 @@ final class State {
     }
 
     private static void addIndex(SeedBattle game, int player, StringBuilder text) {
-        text.append("\nplayer ").append(player).append(" sees ").append(game.seen(player)).append(" index");
-        for (int row = 0; row < game.sightings(player); row++) {
-            text.append(' ').append(game.sighting(player, row, 't'));
-            text.append('/').append(game.sighting(player, row, 'c'));
-            text.append('/').append(game.sighting(player, row, 'u'));
-        }
+        text.append("\nplayer ").append(player).append(" sees ").append(game.seen(player));
+        text.append(" index ").append(index(game, player));
         text.append("\nages");
         for (int at = 0; at < 64; at++) {
             int cell = at;
@@ -62,9 +79,6 @@ final class State {
         if (blocks instanceof String) {
             return;
         }
-        for (int at = 0; at < 60; at++) {
-            int place = at;
-            text.append(' ').append(Check.answer(() -> game.savedAt(player, place)));
-        }
+        text.append(' ').append(numbers(game, player, 60));
     }
 }

@@ -30,19 +30,8 @@ public final class TurnTest {
         return Maps.with(Maps.dryGame(), units);
     }
 
-    /** Gives orders written as unit and direction, does the turn, looks at losses and cells. */
     private static void play(String what, SeedBattle game, String orders, int lost, int... cells) {
-        for (String order : orders.split(" ")) {
-            if (!order.isEmpty()) {
-                String[] parts = order.split(">");
-                game.order(Integer.parseInt(parts[0]), Integer.parseInt(parts[1]));
-            }
-        }
-        CHECK.same(what + ": the lost", game.turn(), lost);
-        for (int unit = 0; unit < cells.length; unit++) {
-            CHECK.same(what + ": cellOf(" + unit + ")", game.cellOf(unit), cells[unit]);
-        }
-        CHECK.same(what + ": isSound", game.isSound(), true);
+        CHECK.play(what, game, orders, lost, cells);
     }
 
     private static void wrongOrders() {
