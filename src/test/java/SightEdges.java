@@ -209,6 +209,8 @@ final class SightEdges {
         SeedBattle small = alone("0=p 1=h 8=h 9=h", 'a', 0);
         check.same("a corner behind hills", small.seen(0), 4);
         check.same("another player", small.seen(1), 0);
+        check.same("the corner of the last row", alone("56=p 48=h 49=h 57=h", 'a', 56).seen(0), 4);
+        check.same("the last corner", alone("63=p 62=h 54=h 55=h", 't', 63).seen(0), 4);
         SeedBattle twice = Maps.with(Maps.game("27=p 19=o 28=p 20=o 35=o 26=o 34=o 18=o 36=o 29=o 21=o 37=o"), "0a27 0a28");
         check.same("each cell counts once", twice.seen(0), 30);
         check.sentence("Promise 11", "Returns how many cells a player sees by its units.");

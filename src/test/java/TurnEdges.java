@@ -46,6 +46,10 @@ final class TurnEdges {
         check.play("who stands in the second holds its cell",
             with("0s27 1a36"), "0>2 0>2 1>1", 0, 28, 29);
         check.play("a pair may meet in the second", with("0s25 1s28"), "0>2 0>2 1>6 1>6", 0, 26, 27);
+        for (int direction = 0; direction < 8; direction++) {
+            SeedBattle game = Maps.with(Maps.game("0=l 8=l 27=l 28=l"), "0s27 1a28");
+            check.play("one that is lost in the first does no second", game, "0>2 0>" + direction + " 1>6", 1, -1, 27);
+        }
     }
 
     /** What lies beside a cell, by the eight directions; the cell itself where the map ends. */
