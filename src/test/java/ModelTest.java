@@ -29,7 +29,7 @@ public final class ModelTest {
 
     private void play() {
         both("setSeed", () -> game.setSeed(seed()), () -> model.setSeed(seed()));
-        int many = random.nextInt(30);
+        int many = run % 4 == 0 ? 100 : random.nextInt(30);
         int side = 3 + random.nextInt(6);
         for (int at = 0; at < many; at++) {
             addUnit(random.nextInt(side) + 8 * random.nextInt(side));

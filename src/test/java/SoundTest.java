@@ -160,6 +160,14 @@ public final class SoundTest {
                 CHECK.same("as it was", game.isSound(), true);
             }
         }
+        while (game.done() < 99) {
+            game.turn();
+        }
+        game.save();
+        int[] numbers = (int[]) inside(inside(game, "copies"), 3, "numbers");
+        CHECK.same("sixty", game.sightings(3), 60);
+        numbers[59] ^= 4;
+        CHECK.same("the last of sixty", game.isSound(), false);
     }
 
     /** What is broken is wiped, and comes back from the parity and the blocks of the allies alone. */

@@ -21,6 +21,7 @@ final class TurnEdges {
         nothingElseIsDone();
         emptyCells();
         eachOnTheCellItWants();
+        fullGames();
         lossesOfATurn();
         turnsThatWereDone();
     }
@@ -218,6 +219,45 @@ final class TurnEdges {
         check.same("nobody of 24 is lost", full.turn(), 0);
         check.same("nor goes anywhere", full.checksum(), before);
         check.same("a game without units", new SeedBattle().turn(), 0);
+    }
+
+    /** 24 units of which the last two, of two players, and as strong, want the same empty cell. */
+    private void fullGames() {
+        check.sentence("Turns", "if one player has more power than each other one");
+        SeedBattle game = Maps.game("60=l 61=l 62=l");
+        Maps.fill(game, 22);
+        Maps.with(game, "0s60 1s62");
+        game.order(22, 2);
+        game.order(23, 6);
+        check.same("two of 24", game.turn(), 0);
+        check.same("the one", game.cellOf(22), 60);
+        check.same("the other", game.cellOf(23), 62);
+        game.order(22, 2);
+        check.same("none is lost", game.turn(), 0);
+        check.same("one of 24", game.cellOf(22), 61);
+        game.order(23, 6);
+        game.turn();
+        check.same("the last of 24 is held up", game.cellOf(23), 62);
+        check.same("isSound", game.isSound(), true);
+        check.sentence("Turns", "of the cells that more than one unit want, the lowest one is looked at");
+        SeedBattle crowd = new SeedBattle();
+        Maps.fill(crowd, 24);
+        Model model = new Model();
+        for (int unit = 0; unit < 24; unit++) {
+            model.addUnit(unit % 4, 's', crowd.cellOf(unit));
+        }
+        for (int turn = 0; turn < 9; turn++) {
+            for (int unit = 0; unit < 48; unit++) {
+                int direction = (unit * (turn + 3) + unit / 5) % 8;
+                int ordered = unit % 24;
+                Check.answer(() -> crowd.order(ordered, direction));
+                if (crowd.cellOf(ordered) >= 0) {
+                    model.order(ordered, direction);
+                }
+            }
+            check.same("the lost of a crowd", crowd.turn(), model.turn());
+            check.same("the crowd", crowd.checksum(), model.checksum());
+        }
     }
 
     private void lossesOfATurn() {
